@@ -60,7 +60,6 @@ public final class LiftDrill {
         line = new Line();
         line.reset(FIRST_SPANS);
         draft = new Line();
-        draft.reset(FIRST_SPANS);
         saved = new Line[MAX_SAVED];
         for (int i = 0; i < saved.length; i++) {
             saved[i] = new Line();
